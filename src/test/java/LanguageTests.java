@@ -59,6 +59,7 @@ public final class LanguageTests {
         theFaceIsTheDocuments();
         theConstantsAreTheDocuments();
         nothingElseIsSeen();
+        classesStaySmall();
         String source = Files.readString(Path.of("src/main/java/TagRoot.java"), StandardCharsets.UTF_8);
         theSourceKeepsToThePart(source);
         methodsStayShort(source);
@@ -137,6 +138,24 @@ public final class LanguageTests {
             for (Method method : one.getDeclaredMethods()) {
                 fault(face.contains(method.getName()), method + " bears a public name");
             }
+        }
+    }
+
+    private static void classesStaySmall() {
+        staysSmall(TagRoot.class);
+        for (Class<?> one : TagRoot.class.getDeclaredClasses()) {
+            staysSmall(one);
+        }
+    }
+
+    private static void staysSmall(Class<?> one) {
+        int fields = 0;
+        for (Field field : one.getDeclaredFields()) {
+            fields += Modifier.isStatic(field.getModifiers()) ? 0 : 1;
+        }
+        fault(fields > 20, one + " has more than twenty fields");
+        for (Method method : one.getDeclaredMethods()) {
+            fault(method.getParameterCount() > 7, method + " takes more than seven parameters");
         }
     }
 
