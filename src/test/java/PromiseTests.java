@@ -62,9 +62,8 @@ public final class PromiseTests {
         }
     }
 
-    /** The call must throw just this exception, and must change nothing that can be asked for. */
-    private static void dueThrow(TagRoot x, String what, Class<?> want, Call call) {
-        String before = state(x);
+    /** The call must throw just this exception; BoundaryTests looks whether it has changed anything. */
+    private static void dueThrow(String what, Class<?> want, Call call) {
         Object got;
         try {
             got = call.run();
@@ -72,26 +71,6 @@ public final class PromiseTests {
             got = e.getClass();
         }
         due(what, got, want);
-        due(what + ", the state behind it", state(x), before);
-    }
-
-    private static String state(TagRoot x) {
-        StringBuilder text = new StringBuilder();
-        text.append(x.tags()).append(' ').append(x.things()).append(' ').append(x.kept());
-        for (int tag = 0; tag < x.tags(); tag++) {
-            text.append(" t").append(x.alias(tag)).append(',').append(x.end(tag)).append(',').append(x.users(tag));
-            text.append(name(x, tag));
-            for (int other = 0; other < x.tags(); other++) {
-                text.append(x.implies(tag, other) ? '1' : '0');
-            }
-        }
-        for (int thing = 0; thing < x.things(); thing++) {
-            text.append(" h").append(x.hand(thing)).append(',').append(x.shown(thing));
-        }
-        for (int request = 0; request < requests(x); request++) {
-            text.append(" r").append(x.standing(request)).append(x.couldPass(request));
-        }
-        return text.toString();
     }
 
     private static String name(TagRoot x, int tag) {
@@ -104,17 +83,6 @@ public final class PromiseTests {
             }
         }
         return text.toString();
-    }
-
-    private static int requests(TagRoot x) {
-        for (int request = 0; request <= 40; request++) {
-            try {
-                x.standing(request);
-            } catch (IndexOutOfBoundsException e) {
-                return request;
-            }
-        }
-        return 41;
     }
 
     private static int enter(TagRoot x, String name) {
@@ -164,11 +132,11 @@ public final class PromiseTests {
         due("things()", x.things(), 0);
         due("kept()", x.kept(), 0);
         due("count(0, 0, 0)", x.count(0, 0, 0), 0);
-        dueThrow(x, "enter()", STATE, x::enter);
-        dueThrow(x, "undo()", STATE, x::undo);
-        dueThrow(x, "standing(0)", INDEX, () -> x.standing(0));
-        dueThrow(x, "hand(0)", INDEX, () -> x.hand(0));
-        dueThrow(x, "end(0)", INDEX, () -> x.end(0));
+        dueThrow("enter()", STATE, x::enter);
+        dueThrow("undo()", STATE, x::undo);
+        dueThrow("standing(0)", INDEX, () -> x.standing(0));
+        dueThrow("hand(0)", INDEX, () -> x.hand(0));
+        dueThrow("end(0)", INDEX, () -> x.end(0));
         due("the first character", x.type('q'), 1);
         TagRoot y = new TagRoot();
         due("the first character of another object", y.type('q'), 1);
@@ -183,13 +151,7 @@ public final class PromiseTests {
             if (isAllowed) {
                 due("type of " + code, x.type(character), 1);
             } else {
-                Object got;
-                try {
-                    got = x.type(character);
-                } catch (RuntimeException e) {
-                    got = e.getClass();
-                }
-                due("type of " + code, got, ARGUMENT);
+                dueThrow("type of " + code, ARGUMENT, () -> x.type(character));
             }
         }
         TagRoot x = new TagRoot();
@@ -197,21 +159,21 @@ public final class PromiseTests {
         for (int index = 0; index < 8; index++) {
             due("the length of the draft", x.type(eight.charAt(index)), index + 1);
         }
-        dueThrow(x, "a ninth character", STATE, () -> x.type('a'));
-        dueThrow(x, "a ninth character that is none of names", ARGUMENT, () -> x.type('0'));
+        dueThrow("a ninth character", STATE, () -> x.type('a'));
+        dueThrow("a ninth character that is none of names", ARGUMENT, () -> x.type('0'));
         due("enter()", x.enter(), 0);
         due("the name", name(x, 0), eight);
         due("the draft is empty then", x.type('a'), 1);
-        dueThrow(x, "a wrong character", ARGUMENT, () -> x.type(' '));
+        dueThrow("a wrong character", ARGUMENT, () -> x.type(' '));
         due("it left the draft", x.type('a'), 2);
     }
 
     private static void promise03Enter() {
         promise = "3 enter";
         TagRoot x = new TagRoot();
-        dueThrow(x, "an empty draft", STATE, x::enter);
+        dueThrow("an empty draft", STATE, x::enter);
         due("a new name", enter(x, "Red-Hat"), 0);
-        dueThrow(x, "the draft is empty again", STATE, x::enter);
+        dueThrow("the draft is empty again", STATE, x::enter);
         due("the same name", enter(x, "rED_hAT"), 0);
         due("the same name once more", enter(x, "Red-Hat"), 0);
         due("a shorter name", enter(x, "red-ha"), 1);
@@ -228,9 +190,9 @@ public final class PromiseTests {
         due("tags()", full.tags(), 24);
         due("a known name with 24 tags", enter(full, "X"), 23);
         full.type('y');
-        dueThrow(full, "a 25th tag", STATE, full::enter);
+        dueThrow("a 25th tag", STATE, full::enter);
         due("the draft is left", full.type('y'), 2);
-        dueThrow(full, "a 25th tag", STATE, full::enter);
+        dueThrow("a 25th tag", STATE, full::enter);
         TagRoot half = keeper(23, 0);
         due("the 24th tag", enter(half, "yy"), 23);
     }
@@ -257,15 +219,15 @@ public final class PromiseTests {
         due("as it was entered first", name(x, 0), "Ab-C_dEf");
         due("letter(0, 7)", x.letter(0, 7), 'f');
         due("letter(1, 0)", x.letter(1, 0), 'x');
-        dueThrow(x, "letter(0, 8)", INDEX, () -> x.letter(0, 8));
-        dueThrow(x, "letter(1, 1)", INDEX, () -> x.letter(1, 1));
-        dueThrow(x, "letter(2, 0)", INDEX, () -> x.letter(2, 0));
+        dueThrow("letter(0, 8)", INDEX, () -> x.letter(0, 8));
+        dueThrow("letter(1, 1)", INDEX, () -> x.letter(1, 1));
+        dueThrow("letter(2, 0)", INDEX, () -> x.letter(2, 0));
         for (int number : WRONG) {
-            dueThrow(x, "letter(0, " + number + ")", INDEX, () -> x.letter(0, number));
-            dueThrow(x, "letter(" + number + ", 0)", INDEX, () -> x.letter(number, 0));
+            dueThrow("letter(0, " + number + ")", INDEX, () -> x.letter(0, number));
+            dueThrow("letter(" + number + ", 0)", INDEX, () -> x.letter(number, 0));
         }
         x.type('q');
-        dueThrow(x, "a draft is no tag", INDEX, () -> x.letter(2, 0));
+        dueThrow("a draft is no tag", INDEX, () -> x.letter(2, 0));
     }
 
     private static void promise06And07Things() {
@@ -278,7 +240,7 @@ public final class PromiseTests {
             dueShown(x, thing, 0);
         }
         due("things()", x.things(), 20);
-        dueThrow(x, "a 21st thing", STATE, x::addThing);
+        dueThrow("a 21st thing", STATE, x::addThing);
         due("things()", x.things(), 20);
         due("tag of the last thing", x.tag(19, 0), true);
         due("users(0)", x.users(0), 1);
@@ -302,11 +264,11 @@ public final class PromiseTests {
         make(x, TagRoot.IMPLY, 2, 1);
         due("a tag that is shown, but not by hand", x.tag(1, 1), true);
         due("hand(1)", x.hand(1), 7);
-        dueThrow(x, "tag(2, 0)", INDEX, () -> x.tag(2, 0));
-        dueThrow(x, "tag(0, 3)", INDEX, () -> x.tag(0, 3));
+        dueThrow("tag(2, 0)", INDEX, () -> x.tag(2, 0));
+        dueThrow("tag(0, 3)", INDEX, () -> x.tag(0, 3));
         for (int number : WRONG) {
-            dueThrow(x, "tag(0, " + number + ")", INDEX, () -> x.tag(0, number));
-            dueThrow(x, "tag(" + number + ", 0)", INDEX, () -> x.tag(number, 0));
+            dueThrow("tag(0, " + number + ")", INDEX, () -> x.tag(0, number));
+            dueThrow("tag(" + number + ", 0)", INDEX, () -> x.tag(number, 0));
         }
     }
 
@@ -329,11 +291,11 @@ public final class PromiseTests {
         due("the end of a tag that is set", x.untag(1, 2), false);
         due("untag(1, 0)", x.untag(1, 0), true);
         dueShown(x, 1, 0);
-        dueThrow(x, "untag(2, 0)", INDEX, () -> x.untag(2, 0));
-        dueThrow(x, "untag(0, 3)", INDEX, () -> x.untag(0, 3));
+        dueThrow("untag(2, 0)", INDEX, () -> x.untag(2, 0));
+        dueThrow("untag(0, 3)", INDEX, () -> x.untag(0, 3));
         for (int number : WRONG) {
-            dueThrow(x, "untag(0, " + number + ")", INDEX, () -> x.untag(0, number));
-            dueThrow(x, "untag(" + number + ", 0)", INDEX, () -> x.untag(number, 0));
+            dueThrow("untag(0, " + number + ")", INDEX, () -> x.untag(0, number));
+            dueThrow("untag(" + number + ", 0)", INDEX, () -> x.untag(number, 0));
         }
     }
 
@@ -379,16 +341,16 @@ public final class PromiseTests {
         due("hand(3)", x.hand(3), 8);
         due("REPLACE of a tag with an alias", x.mass(TagRoot.REPLACE, 0, 2), 1);
         due("hand(0)", x.hand(0), 4);
-        dueThrow(x, "mass(-1, 0, 0)", ARGUMENT, () -> x.mass(-1, 0, 0));
-        dueThrow(x, "mass(3, 0, 0)", ARGUMENT, () -> x.mass(3, 0, 0));
+        dueThrow("mass(-1, 0, 0)", ARGUMENT, () -> x.mass(-1, 0, 0));
+        dueThrow("mass(3, 0, 0)", ARGUMENT, () -> x.mass(3, 0, 0));
         for (int number : WRONG) {
-            dueThrow(x, "mass(0, " + number + ", 0)", INDEX, () -> x.mass(0, number, 0));
-            dueThrow(x, "mass(0, 0, " + number + ")", INDEX, () -> x.mass(0, 0, number));
-            dueThrow(x, "mass(7, 0, " + number + ")", INDEX, () -> x.mass(7, 0, number));
-            dueThrow(x, "mass(" + number + ", 0, 0)", ARGUMENT, () -> x.mass(number, 0, 0));
+            dueThrow("mass(0, " + number + ", 0)", INDEX, () -> x.mass(0, number, 0));
+            dueThrow("mass(0, 0, " + number + ")", INDEX, () -> x.mass(0, 0, number));
+            dueThrow("mass(7, 0, " + number + ")", INDEX, () -> x.mass(7, 0, number));
+            dueThrow("mass(" + number + ", 0, 0)", ARGUMENT, () -> x.mass(number, 0, 0));
         }
-        dueThrow(x, "mass(2, 5, 0)", INDEX, () -> x.mass(2, 5, 0));
-        dueThrow(x, "mass(2, 0, 5)", INDEX, () -> x.mass(2, 0, 5));
+        dueThrow("mass(2, 5, 0)", INDEX, () -> x.mass(2, 5, 0));
+        dueThrow("mass(2, 0, 5)", INDEX, () -> x.mass(2, 0, 5));
     }
 
     private static void promise10MassSeesWhatWasShownAhead() {
@@ -412,7 +374,7 @@ public final class PromiseTests {
     private static void promise11Undo() {
         promise = "11 undo";
         TagRoot x = keeper(3, 2);
-        dueThrow(x, "undo() without a change", STATE, x::undo);
+        dueThrow("undo() without a change", STATE, x::undo);
         x.tag(0, 0);
         x.tag(0, 0);
         x.tag(1, 1);
@@ -436,7 +398,7 @@ public final class PromiseTests {
         dueShown(x, 0, 0);
         due("rules stay", x.implies(0, 2), true);
         due("things stay", x.things(), 3);
-        dueThrow(x, "undo() with none left", STATE, x::undo);
+        dueThrow("undo() with none left", STATE, x::undo);
         undoInRing();
     }
 
@@ -455,7 +417,7 @@ public final class PromiseTests {
             due("hand(0)", x.hand(0), (1 << tag) - 1);
         }
         due("kept()", x.kept(), 0);
-        dueThrow(x, "the older ones are forgotten", STATE, x::undo);
+        dueThrow("the older ones are forgotten", STATE, x::undo);
         due("hand(0)", x.hand(0), 31);
         x.tag(1, 7);
         due("undo() of a change behind it", x.undo(), 1);
@@ -506,9 +468,9 @@ public final class PromiseTests {
         make(x, TagRoot.ALIAS, 3, 4);
         due("an alias leaves it", x.hand(19), want);
         due("hand(18)", x.hand(18), 0);
-        dueThrow(x, "hand(20)", INDEX, () -> x.hand(20));
+        dueThrow("hand(20)", INDEX, () -> x.hand(20));
         for (int number : WRONG) {
-            dueThrow(x, "hand(" + number + ")", INDEX, () -> x.hand(number));
+            dueThrow("hand(" + number + ")", INDEX, () -> x.hand(number));
         }
     }
 
@@ -517,23 +479,23 @@ public final class PromiseTests {
     private static void promise14Ask() {
         promise = "14 ask";
         TagRoot x = keeper(3, 0);
-        dueThrow(x, "ask(0, 1, 1)", ARGUMENT, () -> x.ask(0, 1, 1));
-        dueThrow(x, "ask(-1, 0, 1)", ARGUMENT, () -> x.ask(-1, 0, 1));
-        dueThrow(x, "ask(4, 0, 1)", ARGUMENT, () -> x.ask(4, 0, 1));
-        dueThrow(x, "ask(0, 3, 0)", INDEX, () -> x.ask(0, 3, 0));
-        dueThrow(x, "ask(0, 0, 3)", INDEX, () -> x.ask(0, 0, 3));
-        dueThrow(x, "ask(9, 3, 3)", INDEX, () -> x.ask(9, 3, 3));
+        dueThrow("ask(0, 1, 1)", ARGUMENT, () -> x.ask(0, 1, 1));
+        dueThrow("ask(-1, 0, 1)", ARGUMENT, () -> x.ask(-1, 0, 1));
+        dueThrow("ask(4, 0, 1)", ARGUMENT, () -> x.ask(4, 0, 1));
+        dueThrow("ask(0, 3, 0)", INDEX, () -> x.ask(0, 3, 0));
+        dueThrow("ask(0, 0, 3)", INDEX, () -> x.ask(0, 0, 3));
+        dueThrow("ask(9, 3, 3)", INDEX, () -> x.ask(9, 3, 3));
         for (int request = 0; request < 40; request++) {
             due("ask", x.ask(request % 4, request % 3, (request + 1) % 3), request);
             due("standing", x.standing(request), TagRoot.OPEN);
         }
-        dueThrow(x, "a 41st request", STATE, () -> x.ask(0, 0, 1));
-        dueThrow(x, "a 41st request of no kind", ARGUMENT, () -> x.ask(4, 0, 1));
-        dueThrow(x, "a 41st request from a tag to itself", ARGUMENT, () -> x.ask(0, 1, 1));
-        dueThrow(x, "a 41st request to no tag", INDEX, () -> x.ask(0, 1, 3));
+        dueThrow("a 41st request", STATE, () -> x.ask(0, 0, 1));
+        dueThrow("a 41st request of no kind", ARGUMENT, () -> x.ask(4, 0, 1));
+        dueThrow("a 41st request from a tag to itself", ARGUMENT, () -> x.ask(0, 1, 1));
+        dueThrow("a 41st request to no tag", INDEX, () -> x.ask(0, 1, 3));
         for (int number : WRONG) {
-            dueThrow(x, "ask(0, " + number + ", 0)", INDEX, () -> x.ask(0, number, 0));
-            dueThrow(x, "ask(0, 0, " + number + ")", INDEX, () -> x.ask(0, 0, number));
+            dueThrow("ask(0, " + number + ", 0)", INDEX, () -> x.ask(0, number, 0));
+            dueThrow("ask(0, 0, " + number + ")", INDEX, () -> x.ask(0, 0, number));
         }
         due("a request without votes changes nothing", x.alias(0), TagRoot.NONE);
     }
@@ -553,8 +515,8 @@ public final class PromiseTests {
         due("the vote against becomes one for, 4 : 0", x.vote(request, 5, true), TagRoot.PASSED);
         due("it is done at once", x.implies(0, 1), true);
         dueShown(x, 0, 3);
-        dueThrow(x, "it is not open", STATE, () -> x.vote(request, 7, true));
-        dueThrow(x, "it is not open, and no voter", ARGUMENT, () -> x.vote(request, 10, true));
+        dueThrow("it is not open", STATE, () -> x.vote(request, 7, true));
+        dueThrow("it is not open, and no voter", ARGUMENT, () -> x.vote(request, 10, true));
         int second = x.ask(TagRoot.IMPLY, 1, 2);
         due("against, 0 : 1", x.vote(second, 0, false), TagRoot.OPEN);
         due("the same again", x.vote(second, 0, false), TagRoot.OPEN);
@@ -563,14 +525,14 @@ public final class PromiseTests {
         due("against, 1 : 3", x.vote(second, 3, false), TagRoot.OPEN);
         due("the vote for becomes one against, 0 : 4", x.vote(second, 2, false), TagRoot.FAILED);
         due("implies(1, 2)", x.implies(1, 2), false);
-        dueThrow(x, "it has failed", STATE, () -> x.vote(second, 7, true));
-        dueThrow(x, "no such request", INDEX, () -> x.vote(2, 0, true));
-        dueThrow(x, "no such request, and no voter", INDEX, () -> x.vote(2, 10, true));
+        dueThrow("it has failed", STATE, () -> x.vote(second, 7, true));
+        dueThrow("no such request", INDEX, () -> x.vote(2, 0, true));
+        dueThrow("no such request, and no voter", INDEX, () -> x.vote(2, 10, true));
         int third = x.ask(TagRoot.ALIAS, 0, 2);
-        dueThrow(x, "voter 10", ARGUMENT, () -> x.vote(third, 10, true));
+        dueThrow("voter 10", ARGUMENT, () -> x.vote(third, 10, true));
         for (int number : WRONG) {
-            dueThrow(x, "voter " + number, ARGUMENT, () -> x.vote(third, number, true));
-            dueThrow(x, "request " + number, INDEX, () -> x.vote(number, 0, true));
+            dueThrow("voter " + number, ARGUMENT, () -> x.vote(third, number, true));
+            dueThrow("request " + number, INDEX, () -> x.vote(number, 0, true));
         }
         due("votes of other requests do not count", x.vote(third, 1, true), TagRoot.OPEN);
         for (int voter = 2; voter < 6; voter++) {
@@ -620,9 +582,9 @@ public final class PromiseTests {
             x.vote(other, voter, false);
         }
         due("standing", x.standing(other), TagRoot.FAILED);
-        dueThrow(x, "standing(3)", INDEX, () -> x.standing(3));
+        dueThrow("standing(3)", INDEX, () -> x.standing(3));
         for (int number : WRONG) {
-            dueThrow(x, "standing(" + number + ")", INDEX, () -> x.standing(number));
+            dueThrow("standing(" + number + ")", INDEX, () -> x.standing(number));
         }
     }
 
@@ -650,9 +612,9 @@ public final class PromiseTests {
         due("whatever its votes", y.couldPass(request), true);
         y.vote(request, 2, false);
         due("not open", y.couldPass(request), false);
-        dueThrow(y, "couldPass(1)", INDEX, () -> y.couldPass(1));
+        dueThrow("couldPass(1)", INDEX, () -> y.couldPass(1));
         for (int number : WRONG) {
-            dueThrow(y, "couldPass(" + number + ")", INDEX, () -> y.couldPass(number));
+            dueThrow("couldPass(" + number + ")", INDEX, () -> y.couldPass(number));
         }
     }
 
@@ -734,9 +696,9 @@ public final class PromiseTests {
         }
         due("two of them are left", x.clashes(far), 1);
         due("two of them are left", x.clashes(close), 1);
-        dueThrow(x, "clashes(8)", INDEX, () -> x.clashes(8));
+        dueThrow("clashes(8)", INDEX, () -> x.clashes(8));
         for (int number : WRONG) {
-            dueThrow(x, "clashes(" + number + ")", INDEX, () -> x.clashes(number));
+            dueThrow("clashes(" + number + ")", INDEX, () -> x.clashes(number));
         }
         clashesOfAliases();
         clashesOf40();
@@ -793,11 +755,11 @@ public final class PromiseTests {
         make(x, TagRoot.LIFT_ALIAS, 11, 12);
         due("end(0)", x.end(0), 11);
         due("end(12)", x.end(12), 23);
-        dueThrow(x, "alias(24)", INDEX, () -> x.alias(24));
-        dueThrow(x, "end(24)", INDEX, () -> x.end(24));
+        dueThrow("alias(24)", INDEX, () -> x.alias(24));
+        dueThrow("end(24)", INDEX, () -> x.end(24));
         for (int number : WRONG) {
-            dueThrow(x, "alias(" + number + ")", INDEX, () -> x.alias(number));
-            dueThrow(x, "end(" + number + ")", INDEX, () -> x.end(number));
+            dueThrow("alias(" + number + ")", INDEX, () -> x.alias(number));
+            dueThrow("end(" + number + ")", INDEX, () -> x.end(number));
         }
     }
 
@@ -817,11 +779,11 @@ public final class PromiseTests {
         make(x, TagRoot.LIFT_IMPLY, 0, 1);
         due("lifted", x.implies(0, 1), false);
         due("the other one stays", x.implies(1, 2), true);
-        dueThrow(x, "implies(4, 0)", INDEX, () -> x.implies(4, 0));
-        dueThrow(x, "implies(0, 4)", INDEX, () -> x.implies(0, 4));
+        dueThrow("implies(4, 0)", INDEX, () -> x.implies(4, 0));
+        dueThrow("implies(0, 4)", INDEX, () -> x.implies(0, 4));
         for (int number : WRONG) {
-            dueThrow(x, "implies(0, " + number + ")", INDEX, () -> x.implies(0, number));
-            dueThrow(x, "implies(" + number + ", 0)", INDEX, () -> x.implies(number, 0));
+            dueThrow("implies(0, " + number + ")", INDEX, () -> x.implies(0, number));
+            dueThrow("implies(" + number + ", 0)", INDEX, () -> x.implies(number, 0));
         }
     }
 
@@ -854,11 +816,11 @@ public final class PromiseTests {
         dueShown(x, 3, 0);
         x.undo();
         dueShown(x, 3, 32 + 4 + 8);
-        dueThrow(x, "shown(4)", INDEX, () -> x.shown(4));
-        dueThrow(x, "shownByHand(4)", INDEX, () -> x.shownByHand(4));
+        dueThrow("shown(4)", INDEX, () -> x.shown(4));
+        dueThrow("shownByHand(4)", INDEX, () -> x.shownByHand(4));
         for (int number : WRONG) {
-            dueThrow(x, "shown(" + number + ")", INDEX, () -> x.shown(number));
-            dueThrow(x, "shownByHand(" + number + ")", INDEX, () -> x.shownByHand(number));
+            dueThrow("shown(" + number + ")", INDEX, () -> x.shown(number));
+            dueThrow("shownByHand(" + number + ")", INDEX, () -> x.shownByHand(number));
         }
         TagRoot middle = keeper(3, 1);
         middle.tag(0, 1);
@@ -921,9 +883,9 @@ public final class PromiseTests {
         make(x, TagRoot.LIFT_ALIAS, 0, 2);
         due("users(0)", x.users(0), 19);
         due("users(2)", x.users(2), 0);
-        dueThrow(x, "users(3)", INDEX, () -> x.users(3));
+        dueThrow("users(3)", INDEX, () -> x.users(3));
         for (int number : WRONG) {
-            dueThrow(x, "users(" + number + ")", INDEX, () -> x.users(number));
+            dueThrow("users(" + number + ")", INDEX, () -> x.users(number));
         }
     }
 
@@ -956,11 +918,11 @@ public final class PromiseTests {
         due("the end of a tag by hand", x.reason(0, 2), 5);
         due("a tag that has an alias now", x.reason(0, 5), TagRoot.NONE);
         due("over an implication from an alias", x.reason(0, 6), 105);
-        dueThrow(x, "reason(2, 0)", INDEX, () -> x.reason(2, 0));
-        dueThrow(x, "reason(0, 7)", INDEX, () -> x.reason(0, 7));
+        dueThrow("reason(2, 0)", INDEX, () -> x.reason(2, 0));
+        dueThrow("reason(0, 7)", INDEX, () -> x.reason(0, 7));
         for (int number : WRONG) {
-            dueThrow(x, "reason(0, " + number + ")", INDEX, () -> x.reason(0, number));
-            dueThrow(x, "reason(" + number + ", 0)", INDEX, () -> x.reason(number, 0));
+            dueThrow("reason(0, " + number + ")", INDEX, () -> x.reason(0, number));
+            dueThrow("reason(" + number + ", 0)", INDEX, () -> x.reason(number, 0));
         }
         TagRoot chain = keeper(24, 1);
         chain.tag(0, 23);
@@ -1009,17 +971,17 @@ public final class PromiseTests {
         due("all tags", x.count(31, 31, 31), 0);
         make(x, TagRoot.IMPLY, 2, 4);
         due("a tag that is implied", x.count(16, 0, 0), 2);
-        dueThrow(x, "count(32, 0, 0)", ARGUMENT, () -> x.count(32, 0, 0));
-        dueThrow(x, "count(0, 33, 0)", ARGUMENT, () -> x.count(0, 33, 0));
-        dueThrow(x, "count(0, 0, 63)", ARGUMENT, () -> x.count(0, 0, 63));
+        dueThrow("count(32, 0, 0)", ARGUMENT, () -> x.count(32, 0, 0));
+        dueThrow("count(0, 33, 0)", ARGUMENT, () -> x.count(0, 33, 0));
+        dueThrow("count(0, 0, 63)", ARGUMENT, () -> x.count(0, 0, 63));
         for (int number : WRONG) {
-            dueThrow(x, "count(" + number + ", 0, 0)", ARGUMENT, () -> x.count(number, 0, 0));
-            dueThrow(x, "count(0, " + number + ", 0)", ARGUMENT, () -> x.count(0, number, 0));
-            dueThrow(x, "count(0, 0, " + number + ")", ARGUMENT, () -> x.count(0, 0, number));
+            dueThrow("count(" + number + ", 0, 0)", ARGUMENT, () -> x.count(number, 0, 0));
+            dueThrow("count(0, " + number + ", 0)", ARGUMENT, () -> x.count(0, number, 0));
+            dueThrow("count(0, 0, " + number + ")", ARGUMENT, () -> x.count(0, 0, number));
         }
         TagRoot full = keeper(24, 20);
         due("all things", full.count(0, 0, (1 << 24) - 1), 20);
-        dueThrow(full, "a 25th tag", ARGUMENT, () -> full.count(1 << 24, 0, 0));
+        dueThrow("a 25th tag", ARGUMENT, () -> full.count(1 << 24, 0, 0));
     }
 
     private static void promise27Match() {
@@ -1034,22 +996,22 @@ public final class PromiseTests {
         due("all, any and none", x.match(0, 1, 6, 4), 2);
         due("none", x.match(1, 0, 0, 1), 3);
         due("an alias", x.match(3, 8, 0, 0), 5);
-        dueThrow(x, "match(6, 0, 0, 0)", INDEX, () -> x.match(6, 0, 0, 0));
-        dueThrow(x, "match(4, 1, 0, 0)", INDEX, () -> x.match(4, 1, 0, 0));
-        dueThrow(x, "nothing is counted", INDEX, () -> x.match(0, 16, 0, 0));
-        dueThrow(x, "a set with no tag", ARGUMENT, () -> x.match(0, 32, 0, 0));
-        dueThrow(x, "a set with no tag, and a place too far", ARGUMENT, () -> x.match(99, 0, 32, 0));
-        dueThrow(x, "a set with no tag, and a place below 0", INDEX, () -> x.match(-1, 0, 0, 32));
-        dueThrow(x, "a place below 0", INDEX, () -> x.match(-1, 0, 0, 0));
+        dueThrow("match(6, 0, 0, 0)", INDEX, () -> x.match(6, 0, 0, 0));
+        dueThrow("match(4, 1, 0, 0)", INDEX, () -> x.match(4, 1, 0, 0));
+        dueThrow("nothing is counted", INDEX, () -> x.match(0, 16, 0, 0));
+        dueThrow("a set with no tag", ARGUMENT, () -> x.match(0, 32, 0, 0));
+        dueThrow("a set with no tag, and a place too far", ARGUMENT, () -> x.match(99, 0, 32, 0));
+        dueThrow("a set with no tag, and a place below 0", INDEX, () -> x.match(-1, 0, 0, 32));
+        dueThrow("a place below 0", INDEX, () -> x.match(-1, 0, 0, 0));
         for (int number : WRONG) {
-            dueThrow(x, "match(" + number + ", 0, 0, 0)", INDEX, () -> x.match(number, 0, 0, 0));
-            dueThrow(x, "match(0, " + number + ", 0, 0)", ARGUMENT, () -> x.match(0, number, 0, 0));
-            dueThrow(x, "match(0, 0, " + number + ", 0)", ARGUMENT, () -> x.match(0, 0, number, 0));
-            dueThrow(x, "match(0, 0, 0, " + number + ")", ARGUMENT, () -> x.match(0, 0, 0, number));
+            dueThrow("match(" + number + ", 0, 0, 0)", INDEX, () -> x.match(number, 0, 0, 0));
+            dueThrow("match(0, " + number + ", 0, 0)", ARGUMENT, () -> x.match(0, number, 0, 0));
+            dueThrow("match(0, 0, " + number + ", 0)", ARGUMENT, () -> x.match(0, 0, number, 0));
+            dueThrow("match(0, 0, 0, " + number + ")", ARGUMENT, () -> x.match(0, 0, 0, number));
         }
         TagRoot full = keeper(1, 20);
         due("the last of 20", full.match(19, 0, 0, 1), 19);
-        dueThrow(full, "match(20, 0, 0, 0)", INDEX, () -> full.match(20, 0, 0, 0));
+        dueThrow("match(20, 0, 0, 0)", INDEX, () -> full.match(20, 0, 0, 0));
     }
 
     private static void fullKeeperAndManyCalls() {
@@ -1060,7 +1022,7 @@ public final class PromiseTests {
             make(x, TagRoot.IMPLY, tag, tag + 1);
             calls += 4;
         }
-        for (; calls < 512; calls += 2) {
+        for (; calls < 506; calls += 2) {
             int thing = calls / 2 % 20;
             x.tag(thing, 0);
             x.untag(thing, 0);
