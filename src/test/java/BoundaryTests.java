@@ -1804,6 +1804,21 @@ public final class BoundaryTests {
         x.due("clashes 3", 0);
     }
 
+    private static void promise18ByImplicationsThatStandToATagWithAnAlias() {
+        says("if there is none from the one to the other: an implication stands as it was asked for");
+        Run x = new Run(5, 0);
+        x.pass("IMPLY 0 1");
+        x.pass("ALIAS 1 2");
+        x.ask("ALIAS 3 4");
+        x.ask("LIFT_IMPLY 0 1");
+        x.ask("IMPLY 0 2");
+        x.ask("LIFT_IMPLY 0 2");
+        x.due("clashes 2", 0);
+        x.due("clashes 3", 0);
+        x.due("clashes 4", 0);
+        x.due("clashes 5", 0);
+    }
+
     private static void promise18ByLifts() {
         says("the second one could not any more behind the first one: for there is nothing to lift");
         Run x = new Run(4, 0);
@@ -2253,6 +2268,22 @@ public final class BoundaryTests {
         x.due("tag 0 0", true);
         x.due("reason 0 22", 0);
         x.due("reason 0 10", 100);
+    }
+
+    private static void promise25BehindUndo() {
+        says("over all tags that are set for it by hand: those that are set behind undo()");
+        Run x = new Run(3, 2);
+        x.pass("IMPLY 0 1");
+        x.due("tag 0 0", true);
+        x.due("reason 0 1", 100);
+        x.due("undo", 1);
+        x.due("reason 0 0", TagRoot.NONE);
+        x.due("reason 0 1", TagRoot.NONE);
+        x.due("tag 1 1", true);
+        x.due("mass REPLACE 1 2", 1);
+        x.due("undo", 1);
+        x.due("reason 1 1", 1);
+        x.due("reason 1 2", TagRoot.NONE);
     }
 
     // ---- 26 count
